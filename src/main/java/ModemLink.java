@@ -788,19 +788,16 @@ public final class ModemLink {
             } else {
                 oldest = oldest + 1 < EVENTS_MOST ? oldest + 1 : 0;
             }
-            int row = rowOf(count - 1);
+            int row = Math.floorMod(oldest + count - 1, EVENTS_MOST) * PROPERTIES;
             rows[row + TICK] = tick;
             rows[row + KIND] = kind;
             rows[row + END] = end;
             rows[row + RATE] = rate;
         }
 
-        int rowOf(int event) {
-            return Math.floorMod(oldest + event, EVENTS_MOST) * PROPERTIES;
-        }
-
         int propertyOf(int event, int what) {
-            return what >= 0 && what < PROPERTIES ? rows[rowOf(event) + what] : NONE;
+            int row = Math.floorMod(oldest + event, EVENTS_MOST) * PROPERTIES;
+            return what >= 0 && what < PROPERTIES ? rows[row + what] : NONE;
         }
     }
 
@@ -893,11 +890,22 @@ public final class ModemLink {
         }
 
         void tick() {
-            switch (phase) {
-                case TRAINING: train(); break;
-                case LOST: waitForCarrier(); break;
-                case ONLINE: work(); break;
-                default: break;
+            if (phase == TRAINING) {
+                train();
+            } else if (phase == LOST) {
+                waitForCarrier();
+            } else if (phase == ONLINE && quality == 0) {
+                loseCarrier();
+            } else if (phase == ONLINE) {
+                arrive();
+                checkTimer(0);
+                // If end 0 has just hung up, end 1 has no frames left that could be late.
+                checkTimer(1);
+                if (phase == ONLINE) {
+                    rise();
+                    sendFrom(0);
+                    sendFrom(1);
+                }
             }
             time++;
         }
@@ -997,23 +1005,6 @@ public final class ModemLink {
 
         void note(int kind, int end) {
             log.add(time, kind, end, phase == ONLINE ? rate : NONE);
-        }
-
-        void work() {
-            if (quality == 0) {
-                loseCarrier();
-                return;
-            }
-            arrive();
-            checkTimer(0);
-            if (phase == ONLINE) {
-                checkTimer(1);
-            }
-            if (phase == ONLINE) {
-                rise();
-                sendFrom(0);
-                sendFrom(1);
-            }
         }
 
         void arrive() {
@@ -1204,43 +1195,21 @@ public final class ModemLink {
             while (start < length && (bytes[start] == ' ' || bytes[start] == '\n')) {
                 start++;
             }
-            behind = start;
-            kind = FINISH;
-            if (start >= length) {
-                return;
-            }
-            if (isDigit(bytes[start])) {
-                scanNumber();
-            } else if (isLetter(bytes[start])) {
-                scanWord();
-            } else {
-                kind = SIGN;
-                behind = start + 1;
-            }
-        }
-
-        static boolean isDigit(int sign) {
-            return sign >= '0' && sign <= '9';
-        }
-
-        static boolean isLetter(int sign) {
-            return sign >= 'a' && sign <= 'z';
-        }
-
-        void scanNumber() {
-            kind = NUMBER;
+            kind = start < length ? kindOf(bytes[start]) : FINISH;
+            int most = kind == SIGN ? start + 1 : length;
             value = 0;
-            while (behind < length && isDigit(bytes[behind])) {
-                value = Math.min(value * 10 + bytes[behind] - '0', NUMBER_MOST);
-                behind++;
+            for (behind = start; behind < most && kindOf(bytes[behind]) == kind; behind++) {
+                if (kind == NUMBER) {
+                    value = Math.min(value * 10 + bytes[behind] - '0', NUMBER_MOST);
+                }
             }
         }
 
-        void scanWord() {
-            kind = WORD;
-            while (behind < length && isLetter(bytes[behind])) {
-                behind++;
+        static int kindOf(int sign) {
+            if (sign >= '0' && sign <= '9') {
+                return NUMBER;
             }
+            return sign >= 'a' && sign <= 'z' ? WORD : SIGN;
         }
 
         boolean isWord(String word) {

@@ -90,7 +90,7 @@ final class ModelTest {
     }
 
     private static String setup() {
-        StringBuilder text = new StringBuilder("line " + pick(0, 9) + " ; rates ");
+        StringBuilder text = new StringBuilder("line " + (pick(4) == 0 ? pick(0, 9) : pick(5, 9)) + " ; rates ");
         int speed = 4;
         int need = 0;
         int rates = pick(1, 5);
@@ -164,6 +164,14 @@ final class ModelTest {
         int end = pick(40) == 0 ? pick(-1, 2) : pick(2);
         int some = pick(30) == 0 ? pick(-1, 430) : pick(1, 12);
         boolean writing = pick(2) == 0;
+        if (x.size(1) == 0 && pick(2) == 0) {
+            same("dial", () -> x.dial(), () -> m.dial());
+            return;
+        }
+        if (pick(25) == 0) {
+            breakCarrier();
+            return;
+        }
         switch (pick(24)) {
             case 0: case 1: case 2: case 3: case 4: case 5:
                 same("pass " + some, () -> x.pass(some), () -> m.pass(some));
@@ -171,13 +179,15 @@ final class ModelTest {
             case 6: case 7: case 8:
                 same("dial", () -> x.dial(), () -> m.dial());
                 break;
-            case 9: if (pick(3) == 0) {
-                same("hangUp", () -> x.hangUp(), () -> m.hangUp());
-                break;
-            }
-            // else as the next
-            case 10: case 11: case 12: case 13:
+            case 9: case 10: case 11: case 12:
                 sendSome();
+                break;
+            case 13:
+                if (pick(6) == 0) {
+                    same("hangUp", () -> x.hangUp(), () -> m.hangUp());
+                } else {
+                    same("pass", () -> x.pass(30), () -> m.pass(30));
+                }
                 break;
             case 14:
                 same("escape " + end, () -> x.escape(end), () -> m.escape(end, true));
@@ -219,6 +229,14 @@ final class ModelTest {
                 same("format", () -> x.format(), () -> m.format());
                 break;
         }
+    }
+
+    private static void breakCarrier() {
+        int ticks = pick(1, pick(1, 8));
+        int quality = pick(1, 9);
+        same("setQuality 0", () -> x.setQuality(0), () -> m.setQuality(0));
+        same("pass " + ticks, () -> x.pass(ticks), () -> m.pass(ticks));
+        same("setQuality " + quality, () -> x.setQuality(quality), () -> m.setQuality(quality));
     }
 
     private static void compareAll() {
