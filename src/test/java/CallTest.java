@@ -39,6 +39,8 @@ final class CallTest {
         ModemLink x = online("line 9; rates 20 1;");
         Check.send(x, 0, "abc");
         x.pass(1);
+        Check.send(x, 1, "abc");
+        x.pass(1);
         for (int far : FAR) {
             Check.noSuchElement("size " + far, () -> x.size(far));
             Check.noSuchElement("total " + far, () -> x.total(far));
@@ -69,11 +71,11 @@ final class CallTest {
         Check.noSuchElement("rate 0 2", () -> x.rate(0, 2));
         Check.noSuchElement("frame 2", () -> x.frame(2, 0, 0));
         Check.noSuchElement("frame 0 1", () -> x.frame(0, 1, 0));
-        Check.noSuchElement("frame 1 0", () -> x.frame(1, 0, 0));
+        Check.noSuchElement("frame 1 1", () -> x.frame(1, 1, 0));
         Check.noSuchElement("frame 0 0 4", () -> x.frame(0, 0, 4));
-        Check.noSuchElement("event 1", () -> x.event(1, 0));
+        Check.noSuchElement("event 2", () -> x.event(2, 0));
         Check.noSuchElement("event 0 4", () -> x.event(0, 4));
-        Check.same("undoCount behind exceptions", x.undoCount(), 4);
+        Check.same("undoCount behind exceptions", x.undoCount(), 6);
     }
 
     private static void placesOutOfRange() {
@@ -469,6 +471,21 @@ final class CallTest {
         Check.same("undoCount", x.undoCount(), 1);
     }
 
+    private static void otherBytesBehindSnapshot() {
+        ModemLink x = online("line 9; rates 40 1;");
+        Check.send(x, 0, "abc");
+        x.pass(2);
+        x.saveSnapshot();
+        Check.same("received", Check.received(x, 1), "abc");
+        x.undo();
+        x.undo();
+        Check.send(x, 0, "xyz");
+        x.pass(2);
+        Check.same("received instead", Check.received(x, 1), "xyz");
+        x.restoreSnapshot();
+        Check.same("received behind restoreSnapshot", Check.received(x, 1), "abc");
+    }
+
     private static void snapshot() {
         ModemLink x = online("line 9; rates 20 1;");
         Check.same("no snapshot", x.restoreSnapshot() ? 1 : 0, 0);
@@ -499,6 +516,7 @@ final class CallTest {
         x.pass(2);
         x.restoreSnapshot();
         Check.same("the later snapshot counts", state(x), saved);
+        otherBytesBehindSnapshot();
         x.pass(1);
         x.undo();
         x.restoreSnapshot();

@@ -11,6 +11,8 @@ final class LineTest {
         lossWithoutHold();
         delayAndAcknowledgement();
         windowAndCredit();
+        sevenFramesInATick();
+        defaults();
         damageAndRepetition();
         fallAndCredit();
         noLowerRate();
@@ -23,7 +25,10 @@ final class LineTest {
         escapedEnd();
         dictionaries();
         noises();
+        lastNoise();
         eventsKept();
+        manyEvents();
+        eventsBehindLoad();
         Check.finish();
     }
 
@@ -174,6 +179,84 @@ final class LineTest {
         Check.same("bytes of the last frame", x.frame(0, 0, 1), 4);
         Check.same("credit", x.end(0, 6), 100);
         Check.same("costs", x.total(9), 15 + 3 * 12 + 8);
+    }
+
+    private static void sevenFramesInATick() {
+        ModemLink x = online("line 9; rates 80 1; window 7; delay 9 60;");
+        x.pass(1);
+        Check.send(x, 1, "a".repeat(60));
+        x.pass(1);
+        Check.same("seven frames", x.end(1, 1), 7);
+        Check.same("credit", x.end(1, 6), 108 - 15 - 6 * 12);
+        x.pass(1);
+        Check.same("the window is full", x.total(0), 7);
+        x.pass(8);
+        Check.same("all received", x.end(0, 4), 7);
+        x.setQuality(0);
+        x.pass(1);
+        Check.same("none acknowledged", x.end(1, 1), 7);
+        Check.same("hangUp", x.hangUp(), 4);
+        x.undo();
+        x.setQuality(9);
+        x.pass(3);
+        sizes(x, "online again", 1, 2);
+        Check.same("all forgotten", x.end(1, 1) + x.end(1, 2), 0);
+        x.pass(1);
+        Check.same("the eighth", x.frame(1, 0, 0), 7);
+    }
+
+    /** Everything that a clause can set is set first, so that the second load must set it back. */
+    private static ModemLink withDefaults(String text) {
+        ModemLink x = Check.loaded("line 9; rates 4 1, 5 2, 6 3; train 9 9 9 9; retries 9; hold 50; window 7;"
+            + " delay 9 60; limit 5; patience 50; noise 9 8 7;");
+        Check.load(x, text);
+        Check.same("four steps of 2 ticks", x.dial(), 8);
+        return x;
+    }
+
+    private static void defaults() {
+        ModemLink x = withDefaults("line 0; rates 80 1;");
+        x.pass(2);
+        sizes(x, "two retries", 1, 1, 6, 2);
+        x.pass(1);
+        sizes(x, "no third", 1, 0);
+        x = withDefaults("line 9; rates 80 1;");
+        x.pass(8);
+        Check.send(x, 0, "a".repeat(48));
+        x.pass(1);
+        Check.same("a window of 4", x.end(0, 1), 4);
+        x.setQuality(0);
+        x.pass(5);
+        sizes(x, "a hold of 5", 1, 3, 7, 5);
+        x.pass(1);
+        sizes(x, "not of 6", 1, 0);
+        x = withDefaults("line 1; rates 80 1; noise 2 2 0 2;");
+        x.pass(8);
+        Check.send(x, 0, "a");
+        x.pass(3);
+        sizes(x, "before the timeout", 8, 0);
+        x.pass(1);
+        sizes(x, "a timeout of 3", 8, 1);
+        x.pass(3);
+        sizes(x, "a limit of 2", 1, 0);
+        x = withDefaults("line 9; rates 79 1, 80 9;");
+        x.pass(8);
+        sizes(x, "the higher rate", 3, 1);
+        Check.send(x, 0, "a");
+        x.pass(2);
+        Check.same("a delay of 1, no noise", x.total(10), 1);
+        x = withDefaults("line 8; rates 79 1, 80 9;");
+        x.setQuality(8);
+        x.pass(8);
+        x.setQuality(9);
+        for (int k = 1; k <= 7; k++) {
+            Check.send(x, 0, "a");
+            x.pass(3);
+            sizes(x, "acknowledgement " + k, 3, 0, 9, k);
+        }
+        Check.send(x, 0, "a");
+        x.pass(3);
+        sizes(x, "a patience of 8", 3, 1, 9, 0);
     }
 
     private static void damageAndRepetition() {
@@ -425,6 +508,16 @@ final class LineTest {
         }
     }
 
+    /** Of several clauses of a kind the last one counts, in whole. */
+    private static void lastNoise() {
+        ModemLink x = online("line 5; rates 40 1; noise 6 0; noise 6;");
+        Check.send(x, 0, "a");
+        x.pass(1);
+        Check.send(x, 0, "b");
+        x.pass(1);
+        Check.same("both damaged", x.total(1), 2);
+    }
+
     private static void eventsKept() {
         ModemLink x = Check.loaded("line 9; rates 8 1; train 1 1 1 1;");
         for (int k = 0; k < 31; k++) {
@@ -447,5 +540,36 @@ final class LineTest {
         x.undo();
         Check.same("the oldest one behind undo", x.event(0, 1), 1);
         Check.same("its tick", x.event(0, 0), 3);
+    }
+
+    private static void manyEvents() {
+        ModemLink x = Check.loaded("line 9; rates 8 1; train 1 1 1 1;");
+        for (int k = 0; k < 100; k++) {
+            x.dial();
+            x.pass(4);
+            x.hangUp();
+            for (int e = 0; e < x.size(10); e++) {
+                int number = Math.max(0, 2 * (k + 1) - 60) + e;
+                Check.same("tick of event " + number, x.event(e, 0), 4 * (number / 2) + (number % 2 == 0 ? 3 : 4));
+                Check.same("kind of event " + number, x.event(e, 1), number % 2 == 0 ? 1 : 5);
+            }
+        }
+    }
+
+    private static void eventsBehindLoad() {
+        ModemLink x = Check.loaded("line 9; rates 8 1; train 1 1 1 1;");
+        for (int k = 0; k < 40; k++) {
+            x.dial();
+            x.pass(4);
+            x.hangUp();
+        }
+        Check.load(x, "line 9; rates 8 1; train 1 1 1 1;");
+        x.dial();
+        x.pass(4);
+        x.saveSnapshot();
+        x.undo();
+        x.hangUp();
+        x.restoreSnapshot();
+        Check.same("events behind load", Check.events(x), "3:1:-1:0");
     }
 }

@@ -129,6 +129,13 @@ final class TextTest {
         fails("lin 9; rates 8 1;", 1, 0);
         fails("linex 9; rates 8 1;", 1, 0);
         fails("li ne 9; rates 8 1;", 1, 0);
+        fails("xine 9; rates 8 1;", 1, 0);
+        fails("linez 9; rates 8 1;", 1, 0);
+        fails("alinea 9; rates 8 1;", 1, 0);
+        fails("line`9; rates 8 1;", 1, 4);
+        fails("line{9; rates 8 1;", 1, 4);
+        fails("line 9/; rates 8 1;", 1, 6);
+        fails("line 9:; rates 8 1;", 1, 6);
         fails("line 9; rates 8 1; \u00e9", 1, 19);
         fails("line 9; rates 8 1; \u0000", 1, 19);
         fails("line -1; rates 8 1;", 1, 5);
