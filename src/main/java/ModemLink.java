@@ -93,7 +93,7 @@ public final class ModemLink {
         faultPosition = NONE;
         tokens = new Tokens(buffer);
         setupReader = new SetupReader(tokens);
-        queryReader = new QueryReader(tokens);
+        queryReader = new QueryReader(tokens, line.log);
         text = new StringBuilder();
         line.begin();
     }
@@ -435,7 +435,7 @@ public final class ModemLink {
     public int query(int length) throws IllegalArgumentException {
         checkLength(length, QUERY_MOST);
         tokens.open(length);
-        int answer = queryReader.readQuery(line.log);
+        int answer = queryReader.readQuery();
         closeText();
         return tokens.error == 0 ? answer : HIDDEN - tokens.error;
     }
@@ -777,6 +777,7 @@ public final class ModemLink {
         int count;
 
         void copyFrom(Log other) {
+            // Only a full log has its oldest event elsewhere than in front.
             System.arraycopy(other.rows, 0, rows, 0, other.count * PROPERTIES);
             oldest = other.oldest;
             count = other.count;
@@ -1416,15 +1417,15 @@ public final class ModemLink {
         static final int RATE_VALUE = -5;
 
         final Tokens tokens;
-        Log log;
+        final Log log;
 
-        QueryReader(Tokens tokens) {
+        QueryReader(Tokens tokens, Log log) {
             this.tokens = tokens;
+            this.log = log;
         }
 
         /** The answer is of use only if the tokens have no error behind it. */
-        int readQuery(Log events) {
-            log = events;
+        int readQuery() {
             boolean many = tokens.isWord("many");
             if (!many && !tokens.isWord("first")) {
                 tokens.fail(WRONG_TOKEN);
