@@ -28,15 +28,8 @@ final class CallTest {
 
     private static final int[] FAR = {Integer.MIN_VALUE, -2, -1, 60, 1000, Integer.MAX_VALUE};
 
-    private static ModemLink online(String text) {
-        ModemLink x = Check.loaded(text + " train 1 1 1 1;");
-        x.dial();
-        x.pass(4);
-        return x;
-    }
-
     private static void numbersOutOfRange() {
-        ModemLink x = online("line 9; rates 20 1;");
+        ModemLink x = Lines.online("line 9; rates 20 1;");
         Check.send(x, 0, "abc");
         x.pass(1);
         Check.send(x, 1, "abc");
@@ -79,7 +72,7 @@ final class CallTest {
     }
 
     private static void placesOutOfRange() {
-        ModemLink x = online("line 9; rates 20 1;");
+        ModemLink x = Lines.online("line 9; rates 20 1;");
         Check.send(x, 0, "ab");
         x.pass(2);
         for (int far : FAR) {
@@ -100,7 +93,7 @@ final class CallTest {
     }
 
     private static void receivedKept() {
-        ModemLink x = online("line 9; rates 80 1; window 7;");
+        ModemLink x = Lines.online("line 9; rates 80 1; window 7;");
         for (int k = 0; k < 3; k++) {
             StringBuilder text = new StringBuilder();
             for (int b = 0; b < 200; b++) {
@@ -223,7 +216,7 @@ final class CallTest {
     }
 
     private static void quotients() {
-        ModemLink x = online("line 5; rates 40 1; noise 6 0 0;");
+        ModemLink x = Lines.online("line 5; rates 40 1; noise 6 0 0;");
         Check.same("no bytes", x.costPerByte(), 0.0);
         Check.same("no frames", x.damage(), 0.0f);
         Check.send(x, 0, "abc");
@@ -241,7 +234,7 @@ final class CallTest {
     }
 
     private static void pass() {
-        ModemLink x = online("line 9; rates 40 1;");
+        ModemLink x = Lines.online("line 9; rates 40 1;");
         Check.illegalArgument("pass 0", () -> x.pass(0));
         Check.illegalArgument("pass -1", () -> x.pass(-1));
         Check.illegalArgument("pass 201", () -> x.pass(201));
@@ -419,60 +412,41 @@ final class CallTest {
         Check.same("time", x.size(0), 3);
     }
 
-    private static String state(ModemLink x) {
-        StringBuilder text = new StringBuilder();
-        for (int what = 0; what <= 10; what++) {
-            text.append(x.size(what)).append(',').append(x.total(what)).append(' ');
-        }
-        for (int end = 0; end < 2; end++) {
-            for (int what = 0; what <= 9; what++) {
-                text.append(x.end(end, what)).append(',');
-            }
-            for (int place = 0; place < x.end(end, 1) + x.end(end, 2); place++) {
-                text.append(x.frame(end, place, 0)).append(x.frame(end, place, 1));
-                text.append(x.frame(end, place, 2)).append(x.frame(end, place, 3)).append(';');
-            }
-            text.append(Check.words(x, end, true)).append(Check.words(x, end, false));
-            text.append(Check.received(x, end)).append(x.nextCost(end)).append(',').append(x.receivedBehind(end, 9));
-        }
-        return text.append(Check.events(x)).append(x.ticksToFinish()).toString();
-    }
-
     private static void undoRestoresAll() {
-        ModemLink x = online("line 5; rates 20 1, 30 4; noise 5 0 0; delay 2 5; window 5;");
+        ModemLink x = Lines.online("line 5; rates 20 1, 30 4; noise 5 0 0; delay 2 5; window 5;");
         String[] states = new String[9];
-        states[8] = state(x);
+        states[8] = Lines.state(x);
         Check.send(x, 0, "abcabcabcdefghijklmnopq");
-        states[7] = state(x);
+        states[7] = Lines.state(x);
         Check.send(x, 1, "zzzzzzzzzzzzzzzz");
-        states[6] = state(x);
+        states[6] = Lines.state(x);
         x.pass(3);
-        states[5] = state(x);
+        states[5] = Lines.state(x);
         x.escape(0);
-        states[4] = state(x);
+        states[4] = Lines.state(x);
         x.pass(6);
-        states[3] = state(x);
+        states[3] = Lines.state(x);
         x.resume(0);
         x.pass(4);
         x.undo();
         x.undo();
-        Check.same("behind two undos", state(x), states[3]);
+        Check.same("behind two undos", Lines.state(x), states[3]);
         x.setQuality(0);
-        states[2] = state(x);
+        states[2] = Lines.state(x);
         x.pass(2);
-        states[1] = state(x);
+        states[1] = Lines.state(x);
         x.hangUp();
-        states[0] = state(x);
+        states[0] = Lines.state(x);
         x.dial();
         for (String state : states) {
             x.undo();
-            Check.same("state behind undo", state(x), state);
+            Check.same("state behind undo", Lines.state(x), state);
         }
         Check.same("undoCount", x.undoCount(), 1);
     }
 
     private static void otherBytesBehindSnapshot() {
-        ModemLink x = online("line 9; rates 40 1;");
+        ModemLink x = Lines.online("line 9; rates 40 1;");
         Check.send(x, 0, "abc");
         x.pass(2);
         x.saveSnapshot();
@@ -487,13 +461,13 @@ final class CallTest {
     }
 
     private static void snapshot() {
-        ModemLink x = online("line 9; rates 20 1;");
+        ModemLink x = Lines.online("line 9; rates 20 1;");
         Check.same("no snapshot", x.restoreSnapshot() ? 1 : 0, 0);
         Check.same("nothing changes", x.undoCount(), 2);
         Check.send(x, 0, "abcdefghij");
         x.pass(1);
         x.saveSnapshot();
-        String saved = state(x);
+        String saved = Lines.state(x);
         Check.same("saving is no operation", x.undoCount(), 4);
         x.pass(5);
         x.hangUp();
@@ -501,7 +475,7 @@ final class CallTest {
         Check.query(x, "");
         Check.feed(x, Check.bytes("y"));
         Check.same("restored", x.restoreSnapshot() ? 1 : 0, 1);
-        Check.same("state", state(x), saved);
+        Check.same("state", Lines.state(x), saved);
         Check.same("undo history", x.undoCount(), 0);
         Check.same("undo", x.undo(), -1);
         Check.same("the buffer stays", x.size(11), 20);
@@ -509,17 +483,17 @@ final class CallTest {
         x.pass(3);
         Check.same("undoCount", x.undoCount(), 1);
         Check.same("the snapshot is kept", x.restoreSnapshot() ? 1 : 0, 1);
-        Check.same("state", state(x), saved);
+        Check.same("state", Lines.state(x), saved);
         x.pass(2);
         x.saveSnapshot();
-        saved = state(x);
+        saved = Lines.state(x);
         x.pass(2);
         x.restoreSnapshot();
-        Check.same("the later snapshot counts", state(x), saved);
+        Check.same("the later snapshot counts", Lines.state(x), saved);
         otherBytesBehindSnapshot();
         x.pass(1);
         x.undo();
         x.restoreSnapshot();
-        Check.same("undo leaves the snapshot", state(x), saved);
+        Check.same("undo leaves the snapshot", Lines.state(x), saved);
     }
 }

@@ -10,32 +10,43 @@ final class Check {
 
     private static int checked = 0;
     private static int wrong = 0;
+    private static String sentence = "";
 
     private Check() {
     }
 
+    /** The sentence of the document that the next checks are about: printed before the first wrong answer. */
+    static void about(String words) {
+        sentence = words;
+    }
+
     static void same(String call, long got, long due) {
-        checked++;
-        if (got != due) {
-            wrong++;
-            System.out.println(call + " answered " + got + ", due is " + due);
-        }
+        check(got == due, call, String.valueOf(got), String.valueOf(due));
     }
 
     static void same(String call, double got, double due) {
-        checked++;
-        if (got != due) {
-            wrong++;
-            System.out.println(call + " answered " + got + ", due is " + due);
-        }
+        check(got == due, call, String.valueOf(got), String.valueOf(due));
     }
 
     static void same(String call, String got, String due) {
+        check(got.equals(due), call, got, due);
+    }
+
+    static void yes(String what, boolean holds) {
+        check(holds, what, "false", "true");
+    }
+
+    private static void check(boolean right, String call, String got, String due) {
         checked++;
-        if (!got.equals(due)) {
-            wrong++;
-            System.out.println(call + " answered " + got + ", due is " + due);
+        if (right) {
+            return;
         }
+        wrong++;
+        if (!sentence.isEmpty()) {
+            System.out.println("The document says: " + sentence);
+            sentence = "";
+        }
+        System.out.println(call + " answered " + got + ", due is " + due);
     }
 
     static void noSuchElement(String call, Call made) {

@@ -32,42 +32,22 @@ final class LineTest {
         Check.finish();
     }
 
-    private static ModemLink online(String text) {
-        ModemLink x = Check.loaded(text + " train 1 1 1 1;");
-        x.dial();
-        x.pass(4);
-        Check.same("online by " + text, x.size(1), 2);
-        return x;
-    }
-
-    private static void sizes(ModemLink x, String when, int... whatAndDue) {
-        for (int k = 0; k < whatAndDue.length; k += 2) {
-            Check.same(when + ": size " + whatAndDue[k], x.size(whatAndDue[k]), whatAndDue[k + 1]);
-        }
-    }
-
-    private static void totals(ModemLink x, String when, int... due) {
-        for (int what = 0; what < due.length; what++) {
-            Check.same(when + ": total " + what, x.total(what), due[what]);
-        }
-    }
-
     private static void training() {
         ModemLink x = Check.loaded("line 9; rates 8 1; train 2 1 3 1;");
         Check.same("dial", x.dial(), 7);
-        sizes(x, "dialled", 0, 0, 1, 1, 3, -1, 4, 0, 5, 2, 6, 0, 7, -1, 8, 0, 9, 0);
+        Lines.sizes(x, "dialled", 0, 0, 1, 1, 3, -1, 4, 0, 5, 2, 6, 0, 7, -1, 8, 0, 9, 0);
         x.pass(1);
-        sizes(x, "tick 0", 0, 1, 4, 0, 5, 1, 6, 0);
+        Lines.sizes(x, "tick 0", 0, 1, 4, 0, 5, 1, 6, 0);
         x.pass(1);
-        sizes(x, "tick 1", 4, 1, 5, 1);
+        Lines.sizes(x, "tick 1", 4, 1, 5, 1);
         x.pass(1);
-        sizes(x, "tick 2", 4, 2, 5, 3);
+        Lines.sizes(x, "tick 2", 4, 2, 5, 3);
         x.pass(3);
-        sizes(x, "tick 5", 1, 1, 4, 3, 5, 1);
+        Lines.sizes(x, "tick 5", 1, 1, 4, 3, 5, 1);
         x.pass(1);
-        sizes(x, "tick 6", 0, 7, 1, 2, 3, 0, 4, -1, 5, -1, 6, -1, 7, -1);
+        Lines.sizes(x, "tick 6", 0, 7, 1, 2, 3, 0, 4, -1, 5, -1, 6, -1, 7, -1);
         Check.same("events", Check.events(x), "6:1:-1:0");
-        totals(x, "online", 0, 0, 0, 0, 0, 0, 0, 0, 1, 0, 0);
+        Lines.totals(x, "online", 0, 0, 0, 0, 0, 0, 0, 0, 1, 0, 0);
     }
 
     private static void trainingRestarts() {
@@ -76,25 +56,25 @@ final class LineTest {
         x.pass(2);
         x.setQuality(0);
         x.pass(1);
-        sizes(x, "first restart", 1, 1, 4, 0, 5, 3, 6, 1);
+        Lines.sizes(x, "first restart", 1, 1, 4, 0, 5, 3, 6, 1);
         x.setQuality(5);
         x.pass(4);
-        sizes(x, "second step", 4, 1, 5, 1, 6, 1);
+        Lines.sizes(x, "second step", 4, 1, 5, 1, 6, 1);
         x.setQuality(0);
         x.pass(1);
-        sizes(x, "second restart", 1, 1, 4, 1, 5, 2, 6, 2);
+        Lines.sizes(x, "second restart", 1, 1, 4, 1, 5, 2, 6, 2);
         Check.send(x, 1, "abc");
         x.pass(1);
-        sizes(x, "third restart", 0, 9, 1, 0, 4, -1, 5, -1, 6, -1);
+        Lines.sizes(x, "third restart", 0, 9, 1, 0, 4, -1, 5, -1, 6, -1);
         Check.same("the queue is lost", x.end(1, 0), 0);
         Check.same("events", Check.events(x), "8:5:-1:-1");
-        totals(x, "hung up", 0, 0, 0, 0, 0, 0, 0, 1, 0, 0, 0);
+        Lines.totals(x, "hung up", 0, 0, 0, 0, 0, 0, 0, 1, 0, 0, 0);
         x.dial();
-        sizes(x, "dialled again", 4, 0, 5, 3, 6, 0);
+        Lines.sizes(x, "dialled again", 4, 0, 5, 3, 6, 0);
         Check.load(x, "line 0; rates 8 1; retries 0;");
         x.dial();
         x.pass(1);
-        sizes(x, "no retries", 1, 0);
+        Lines.sizes(x, "no retries", 1, 0);
     }
 
     private static void rateOfTraining() {
@@ -102,7 +82,7 @@ final class LineTest {
             ModemLink x = Check.loaded("line " + quality + "; rates 10 3, 20 6; train 1 1 1 1;");
             x.dial();
             x.pass(4);
-            sizes(x, "quality " + quality, 1, quality < 3 ? 0 : 2, 3, quality < 3 ? -1 : quality < 6 ? 0 : 1);
+            Lines.sizes(x, "quality " + quality, 1, quality < 3 ? 0 : 2, 3, quality < 3 ? -1 : quality < 6 ? 0 : 1);
             Check.same("event", Check.events(x), quality < 3 ? "3:5:-1:-1" : quality < 6 ? "3:1:-1:0" : "3:1:-1:1");
         }
     }
@@ -113,31 +93,31 @@ final class LineTest {
         x.pass(5);
         x.setQuality(0);
         x.pass(1);
-        sizes(x, "lost", 0, 6, 1, 3, 3, -1, 4, -1, 6, -1, 7, 1, 8, 0, 9, 0);
+        Lines.sizes(x, "lost", 0, 6, 1, 3, 3, -1, 4, -1, 6, -1, 7, 1, 8, 0, 9, 0);
         x.pass(1);
-        sizes(x, "lost longer", 1, 3, 7, 2);
+        Lines.sizes(x, "lost longer", 1, 3, 7, 2);
         x.setQuality(1);
         x.pass(1);
-        sizes(x, "training again", 1, 1, 4, 2, 5, 2, 6, 0, 7, -1);
+        Lines.sizes(x, "training again", 1, 1, 4, 2, 5, 2, 6, 0, 7, -1);
         x.pass(3);
-        sizes(x, "online again", 1, 2);
+        Lines.sizes(x, "online again", 1, 2);
         x.setQuality(0);
         x.pass(3);
-        sizes(x, "lost for too long", 0, 14, 1, 0, 7, -1);
+        Lines.sizes(x, "lost for too long", 0, 14, 1, 0, 7, -1);
         Check.same("events", Check.events(x), "4:1:-1:0 5:4:-1:-1 10:1:-1:0 11:4:-1:-1 13:5:-1:-1");
-        totals(x, "hung up", 0, 0, 0, 0, 0, 0, 2, 1, 2, 0, 0);
+        Lines.totals(x, "hung up", 0, 0, 0, 0, 0, 0, 2, 1, 2, 0, 0);
     }
 
     private static void lossWithoutHold() {
-        ModemLink x = online("line 9; rates 8 1; hold 0;");
+        ModemLink x = Lines.online("line 9; rates 8 1; hold 0;");
         x.setQuality(0);
         x.pass(1);
-        sizes(x, "no hold", 0, 5, 1, 0, 7, -1);
+        Lines.sizes(x, "no hold", 0, 5, 1, 0, 7, -1);
         Check.same("events", Check.events(x), "3:1:-1:0 4:4:-1:-1 4:5:-1:-1");
     }
 
     private static void delayAndAcknowledgement() {
-        ModemLink x = online("line 9; rates 40 1; delay 3 7;");
+        ModemLink x = Lines.online("line 9; rates 40 1; delay 3 7;");
         Check.send(x, 1, "abcdefgh");
         Check.same("tick 4", x.pass(1), 0);
         Check.same("frame number", x.frame(1, 0, 0), 0);
@@ -152,15 +132,15 @@ final class LineTest {
         Check.same("event", Check.events(x), "3:1:-1:0 7:7:0:0");
         x.pass(2);
         Check.same("not acknowledged in tick 9", x.end(1, 1), 1);
-        sizes(x, "tick 9", 9, 0);
+        Lines.sizes(x, "tick 9", 9, 0);
         x.pass(1);
         Check.same("acknowledged in tick 10", x.end(1, 1), 0);
-        sizes(x, "tick 10", 9, 1);
+        Lines.sizes(x, "tick 10", 9, 1);
         Check.same("next number", x.end(1, 3), 1);
     }
 
     private static void windowAndCredit() {
-        ModemLink x = online("line 9; rates 80 1; window 2;");
+        ModemLink x = Lines.online("line 9; rates 80 1; window 2;");
         Check.send(x, 0, "a".repeat(36));
         x.pass(1);
         Check.same("two frames", x.end(0, 1), 2);
@@ -182,7 +162,7 @@ final class LineTest {
     }
 
     private static void sevenFramesInATick() {
-        ModemLink x = online("line 9; rates 80 1; window 7; delay 9 60;");
+        ModemLink x = Lines.online("line 9; rates 80 1; window 7; delay 9 60;");
         x.pass(1);
         Check.send(x, 1, "a".repeat(60));
         x.pass(1);
@@ -199,7 +179,7 @@ final class LineTest {
         x.undo();
         x.setQuality(9);
         x.pass(3);
-        sizes(x, "online again", 1, 2);
+        Lines.sizes(x, "online again", 1, 2);
         Check.same("all forgotten", x.end(1, 1) + x.end(1, 2), 0);
         x.pass(1);
         Check.same("the eighth", x.frame(1, 0, 0), 7);
@@ -217,9 +197,9 @@ final class LineTest {
     private static void defaults() {
         ModemLink x = withDefaults("line 0; rates 80 1;");
         x.pass(2);
-        sizes(x, "two retries", 1, 1, 6, 2);
+        Lines.sizes(x, "two retries", 1, 1, 6, 2);
         x.pass(1);
-        sizes(x, "no third", 1, 0);
+        Lines.sizes(x, "no third", 1, 0);
         x = withDefaults("line 9; rates 80 1;");
         x.pass(8);
         Check.send(x, 0, "a".repeat(48));
@@ -227,21 +207,21 @@ final class LineTest {
         Check.same("a window of 4", x.end(0, 1), 4);
         x.setQuality(0);
         x.pass(5);
-        sizes(x, "a hold of 5", 1, 3, 7, 5);
+        Lines.sizes(x, "a hold of 5", 1, 3, 7, 5);
         x.pass(1);
-        sizes(x, "not of 6", 1, 0);
+        Lines.sizes(x, "not of 6", 1, 0);
         x = withDefaults("line 1; rates 80 1; noise 2 2 0 2;");
         x.pass(8);
         Check.send(x, 0, "a");
         x.pass(3);
-        sizes(x, "before the timeout", 8, 0);
+        Lines.sizes(x, "before the timeout", 8, 0);
         x.pass(1);
-        sizes(x, "a timeout of 3", 8, 1);
+        Lines.sizes(x, "a timeout of 3", 8, 1);
         x.pass(3);
-        sizes(x, "a limit of 2", 1, 0);
+        Lines.sizes(x, "a limit of 2", 1, 0);
         x = withDefaults("line 9; rates 79 1, 80 9;");
         x.pass(8);
-        sizes(x, "the higher rate", 3, 1);
+        Lines.sizes(x, "the higher rate", 3, 1);
         Check.send(x, 0, "a");
         x.pass(2);
         Check.same("a delay of 1, no noise", x.total(10), 1);
@@ -252,28 +232,28 @@ final class LineTest {
         for (int k = 1; k <= 7; k++) {
             Check.send(x, 0, "a");
             x.pass(3);
-            sizes(x, "acknowledgement " + k, 3, 0, 9, k);
+            Lines.sizes(x, "acknowledgement " + k, 3, 0, 9, k);
         }
         Check.send(x, 0, "a");
         x.pass(3);
-        sizes(x, "a patience of 8", 3, 1, 9, 0);
+        Lines.sizes(x, "a patience of 8", 3, 1, 9, 0);
     }
 
     private static void damageAndRepetition() {
-        ModemLink x = online("line 5; rates 40 1; delay 2 5; noise 6 0 0 0 0 0 0 0 0 0;");
+        ModemLink x = Lines.online("line 5; rates 40 1; delay 2 5; noise 6 0 0 0 0 0 0 0 0 0;");
         Check.send(x, 0, "abcdefghij");
         x.pass(1);
-        totals(x, "tick 4", 2, 1, 0, 0, 0, 0, 0, 0, 1, 39, 0);
+        Lines.totals(x, "tick 4", 2, 1, 0, 0, 0, 0, 0, 0, 1, 39, 0);
         Check.same("dictionary", Check.words(x, 0, true), "jihgfedc");
         x.pass(2);
-        totals(x, "tick 6", 2, 1, 2, 0);
+        Lines.totals(x, "tick 6", 2, 1, 2, 0);
         Check.same("nothing read", x.end(1, 9), 0);
         x.pass(2);
-        totals(x, "tick 8", 2, 1, 2, 0);
+        Lines.totals(x, "tick 8", 2, 1, 2, 0);
         Check.same("repetition costs", x.end(0, 6), 68);
         x.pass(1);
-        totals(x, "tick 9", 4, 1, 2, 1, 0, 0, 0, 0, 1, 78, 0);
-        sizes(x, "tick 9", 8, 1, 9, 0);
+        Lines.totals(x, "tick 9", 4, 1, 2, 1, 0, 0, 0, 0, 1, 78, 0);
+        Lines.sizes(x, "tick 9", 8, 1, 9, 0);
         Check.same("credit", x.end(0, 6), 68 - 39);
         Check.same("last sent", x.frame(0, 0, 2), 9);
         Check.same("second frame", x.frame(0, 1, 0), 1);
@@ -281,35 +261,35 @@ final class LineTest {
         x.pass(2);
         Check.same("received", Check.received(x, 1), "abcdefghij");
         Check.same("dictionary read", Check.words(x, 1, false), "jihgfedc");
-        sizes(x, "tick 11", 8, 1, 9, 0);
+        Lines.sizes(x, "tick 11", 8, 1, 9, 0);
         x.pass(2);
-        sizes(x, "tick 13", 8, 0, 9, 2);
+        Lines.sizes(x, "tick 13", 8, 0, 9, 2);
         Check.same("events", Check.events(x), "3:1:-1:0 9:6:0:0 11:7:1:0");
         Check.same("finished", x.ticksToFinish(), 0);
     }
 
     private static void fallAndCredit() {
-        ModemLink x = online("line 5; rates 30 1, 40 2; limit 1; noise 5;");
+        ModemLink x = Lines.online("line 5; rates 30 1, 40 2; limit 1; noise 5;");
         Check.send(x, 0, "a");
         x.pass(3);
         Check.same("credit at the higher rate", x.end(0, 6), 68);
         x.pass(1);
-        sizes(x, "tick 7", 3, 0, 8, 0, 9, 0);
+        Lines.sizes(x, "tick 7", 3, 0, 8, 0, 9, 0);
         Check.same("credit at the lower rate", x.end(0, 6), 58 - 8);
         x.pass(2);
         Check.same("events", Check.events(x), "3:1:-1:1 7:6:0:1 7:2:-1:0 8:7:1:0");
-        totals(x, "tick 9", 2, 1, 1, 1, 1, 0, 0, 0, 1, 16, 1);
-        sizes(x, "tick 9", 8, 0, 9, 1);
+        Lines.totals(x, "tick 9", 2, 1, 1, 1, 1, 0, 0, 0, 1, 16, 1);
+        Lines.sizes(x, "tick 9", 8, 0, 9, 1);
     }
 
     private static void noLowerRate() {
-        ModemLink x = online("line 5; rates 30 1; limit 1; noise 6;");
+        ModemLink x = Lines.online("line 5; rates 30 1; limit 1; noise 6;");
         Check.send(x, 0, "abcdefghabcdefgh");
         Check.send(x, 1, "x");
         x.pass(4);
-        sizes(x, "tick 7", 0, 8, 1, 0, 3, -1);
+        Lines.sizes(x, "tick 7", 0, 8, 1, 0, 3, -1);
         Check.same("events", Check.events(x), "3:1:-1:0 7:6:0:0 7:5:-1:-1");
-        totals(x, "tick 7", 3, 3, 3, 1, 0, 0, 0, 1, 1);
+        Lines.totals(x, "tick 7", 3, 3, 3, 1, 0, 0, 0, 1, 1);
         Check.same("queue", x.end(0, 0), 0);
         Check.same("frames", x.end(0, 1) + x.end(0, 2) + x.end(1, 1) + x.end(1, 2), 0);
         Check.same("numbers stay", x.end(0, 3), 2);
@@ -319,21 +299,21 @@ final class LineTest {
     }
 
     private static void failuresOfBothEnds() {
-        ModemLink x = online("line 5; rates 30 1, 40 2; limit 2; noise 5;");
+        ModemLink x = Lines.online("line 5; rates 30 1, 40 2; limit 2; noise 5;");
         Check.send(x, 0, "a");
         Check.send(x, 1, "b");
         x.pass(4);
         Check.same("events", Check.events(x), "3:1:-1:1 7:6:0:1 7:6:1:1 7:2:-1:0");
-        sizes(x, "both failed", 3, 0, 8, 0, 9, 0);
-        x = online("line 5; rates 30 1, 40 2; limit 3; noise 5;");
+        Lines.sizes(x, "both failed", 3, 0, 8, 0, 9, 0);
+        x = Lines.online("line 5; rates 30 1, 40 2; limit 3; noise 5;");
         Check.send(x, 0, "a");
         x.pass(4);
-        sizes(x, "one failure", 3, 1, 8, 1);
+        Lines.sizes(x, "one failure", 3, 1, 8, 1);
         x.pass(3);
-        sizes(x, "two failures", 3, 1, 8, 2);
+        Lines.sizes(x, "two failures", 3, 1, 8, 2);
         x.pass(3);
-        sizes(x, "three failures", 3, 0, 8, 0);
-        x = online("line 5; rates 10 1, 20 2, 30 3; limit 1; noise 5;");
+        Lines.sizes(x, "three failures", 3, 0, 8, 0);
+        x = Lines.online("line 5; rates 10 1, 20 2, 30 3; limit 1; noise 5;");
         Check.send(x, 0, "a");
         Check.send(x, 1, "b");
         x.pass(4);
@@ -341,45 +321,45 @@ final class LineTest {
     }
 
     private static void acknowledgementResetsFailures() {
-        ModemLink x = online("line 5; rates 30 1; limit 2; noise 6 0;");
+        ModemLink x = Lines.online("line 5; rates 30 1; limit 2; noise 6 0;");
         Check.send(x, 0, "a");
         x.pass(4);
-        sizes(x, "failed", 8, 1);
+        Lines.sizes(x, "failed", 8, 1);
         x.pass(2);
-        sizes(x, "acknowledged", 8, 0, 9, 1);
+        Lines.sizes(x, "acknowledged", 8, 0, 9, 1);
         Check.send(x, 0, "a");
         x.pass(4);
-        sizes(x, "failed again", 1, 2, 8, 1, 9, 0);
+        Lines.sizes(x, "failed again", 1, 2, 8, 1, 9, 0);
     }
 
     private static void rise() {
-        ModemLink x = online("line 5; rates 30 1, 40 9; patience 2;");
+        ModemLink x = Lines.online("line 5; rates 30 1, 40 9; patience 2;");
         Check.send(x, 0, "aaaaaaaabbbbbbbb");
         x.setQuality(9);
         x.pass(2);
-        sizes(x, "tick 5", 3, 0, 9, 0);
+        Lines.sizes(x, "tick 5", 3, 0, 9, 0);
         x.pass(1);
-        sizes(x, "tick 6", 3, 1, 9, 0);
+        Lines.sizes(x, "tick 6", 3, 1, 9, 0);
         Check.same("speed of the new rate", x.end(1, 6), 68);
         Check.same("events", Check.events(x), "3:1:-1:0 5:7:1:0 6:3:-1:1");
-        totals(x, "risen", 2, 0, 0, 0, 0, 1);
+        Lines.totals(x, "risen", 2, 0, 0, 0, 0, 1);
         Check.send(x, 0, "aaaaaaaabbbbbbbb");
         x.pass(5);
-        sizes(x, "no higher rate", 3, 1, 9, 2);
+        Lines.sizes(x, "no higher rate", 3, 1, 9, 2);
     }
 
     private static void acknowledgementsWaitForQuality() {
-        ModemLink x = online("line 5; rates 30 1, 40 6; patience 1;");
+        ModemLink x = Lines.online("line 5; rates 30 1, 40 6; patience 1;");
         Check.send(x, 0, "aaaaaaaabbbbbbbb");
         x.pass(4);
-        sizes(x, "quality too low", 3, 0, 9, 2);
+        Lines.sizes(x, "quality too low", 3, 0, 9, 2);
         x.setQuality(6);
         x.pass(1);
-        sizes(x, "quality fits", 3, 1, 9, 0);
+        Lines.sizes(x, "quality fits", 3, 1, 9, 0);
     }
 
     private static void lossKeepsFrames() {
-        ModemLink x = online("line 9; rates 20 1; delay 2 5;");
+        ModemLink x = Lines.online("line 9; rates 20 1; delay 2 5;");
         Check.send(x, 0, "a".repeat(16));
         x.pass(3);
         Check.same("two frames", x.end(0, 1), 2);
@@ -391,9 +371,9 @@ final class LineTest {
         x.undo();
         x.setQuality(9);
         x.pass(1);
-        sizes(x, "training", 1, 1, 4, 2, 5, 1, 6, 0);
+        Lines.sizes(x, "training", 1, 1, 4, 2, 5, 1, 6, 0);
         x.pass(2);
-        sizes(x, "online again", 0, 11, 1, 2);
+        Lines.sizes(x, "online again", 0, 11, 1, 2);
         Check.same("one frame forgotten", x.end(0, 1), 0);
         Check.same("one is sent again", x.end(0, 2), 1);
         Check.same("its number", x.frame(0, 0, 0), 1);
@@ -406,16 +386,16 @@ final class LineTest {
         x.pass(2);
         Check.same("received", x.end(1, 5), 16);
         Check.same("events", Check.events(x), "3:1:-1:0 6:7:1:0 7:4:-1:-1 10:1:-1:0 13:7:1:0");
-        totals(x, "tick 13", 3, 0, 0, 0, 0, 0, 1, 0, 2, 42, 16);
+        Lines.totals(x, "tick 13", 3, 0, 0, 0, 0, 0, 1, 0, 2, 42, 16);
     }
 
     private static void hangUpAndDialAgain() {
-        ModemLink x = online("line 9; rates 20 1;");
+        ModemLink x = Lines.online("line 9; rates 20 1;");
         Check.send(x, 0, "abcabcab");
         x.escape(1);
         x.pass(1);
         Check.same("hangUp", x.hangUp(), 0 + 8);
-        sizes(x, "hung up", 1, 0, 10, 2);
+        Lines.sizes(x, "hung up", 1, 0, 10, 2);
         Check.same("next number stays", x.end(0, 3), 1);
         Check.same("escape stays", x.end(1, 7), 1);
         Check.same("credit stays", x.end(0, 6), 1);
@@ -442,7 +422,7 @@ final class LineTest {
     }
 
     private static void escapedEnd() {
-        ModemLink x = online("line 9; rates 40 1;");
+        ModemLink x = Lines.online("line 9; rates 40 1;");
         Check.send(x, 0, "ab");
         Check.same("escape", x.escape(0), 2);
         x.pass(3);
@@ -461,7 +441,7 @@ final class LineTest {
     }
 
     private static void dictionaries() {
-        ModemLink x = online("line 9; rates 80 1; window 7;");
+        ModemLink x = Lines.online("line 9; rates 80 1; window 7;");
         Check.send(x, 0, "abcabcababcdefghi");
         Check.same("nextCost", x.nextCost(0), 5 + 3 * 3 + 5);
         x.pass(1);
@@ -483,7 +463,7 @@ final class LineTest {
 
     private static void noises() {
         // Frames 0, 3, 6 and so on are damaged at this quality, as 4 + 1 > 4, but 3 + 1 is not.
-        ModemLink x = online("line 4; rates 20 1, 40 3; noise 4 3 0; limit 5;");
+        ModemLink x = Lines.online("line 4; rates 20 1, 40 3; noise 4 3 0; limit 5;");
         int damaged = 0;
         for (int k = 0; k < 8; k++) {
             int before = x.total(0);
@@ -510,7 +490,7 @@ final class LineTest {
 
     /** Of several clauses of a kind the last one counts, in whole. */
     private static void lastNoise() {
-        ModemLink x = online("line 5; rates 40 1; noise 6 0; noise 6;");
+        ModemLink x = Lines.online("line 5; rates 40 1; noise 6 0; noise 6;");
         Check.send(x, 0, "a");
         x.pass(1);
         Check.send(x, 0, "b");
@@ -525,7 +505,7 @@ final class LineTest {
             x.pass(4);
             x.hangUp();
         }
-        sizes(x, "62 events", 10, 60);
+        Lines.sizes(x, "62 events", 10, 60);
         Check.same("the oldest one", x.event(0, 0), 7);
         Check.same("its kind", x.event(0, 1), 1);
         Check.same("the newest one", x.event(59, 0), 124);
