@@ -444,6 +444,24 @@ final class CallBoundsTest {
         Lines.sizes(x, "undo", 0, 15);
         x.restoreSnapshot();
         Lines.sizes(x, "undo leaves the snapshot", 0, 16);
+        x = Lines.online("line 9; rates 80 1;");
+        Check.send(x, 0, "abc");
+        x.pass(2);
+        x.saveSnapshot();
+        x.undo();
+        x.undo();
+        Check.send(x, 0, "uvwxyz");
+        x.pass(2);
+        Check.same("other bytes", Check.received(x, 1), "uvwxyz");
+        x.restoreSnapshot();
+        Check.same("the bytes of the snapshot", Check.received(x, 1), "abc");
+        x = Lines.online(Lines.HEAD);
+        x.saveSnapshot();
+        x.undo();
+        x.hangUp();
+        Check.same("another event", Check.events(x), "0:5:-1:-1");
+        x.restoreSnapshot();
+        Check.same("the event of the snapshot", Check.events(x), "3:1:-1:0");
     }
 
     private static void restoreSnapshot() {

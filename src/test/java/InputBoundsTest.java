@@ -27,6 +27,8 @@ final class InputBoundsTest {
         noises();
         lastClauseCounts();
         defaults();
+        defaultsOfFailures();
+        lastNoiseCounts();
         queryEndsTooEarly();
         otherTokensInQueries();
         queryValues();
@@ -298,23 +300,81 @@ final class InputBoundsTest {
         Lines.sizes(x, "hold", 1, 0);
     }
 
-    private static void defaults() {
+    /** Every clause set something else before. */
+    private static ModemLink withDefaults(String text) {
         Check.about("Without the clauses the steps are 2 ticks long, the retries 2, the hold 5, the window 4, the delay 1 and the timeout 3, the limit 2, the patience 8, and there is one noise, 0");
-        String bare = "line 6; rates 60 1, 70 6, 80 9;";
-        String full = bare + "train 2 2 2 2; retries 2; hold 5; window 4; delay 1 3; limit 2; patience 8; noise 0;";
-        ModemLink x = Check.loaded(bare);
-        ModemLink y = Check.loaded(full);
-        Check.same("dial", x.dial(), y.dial());
-        int[] qualities = {0, 0, 6, 6, 6, 6, 6, 6, 6, 6, 9, 9, 9, 9, 9, 9, 9, 9, 9, 9, 9, 9, 9, 9, 9, 9, 0, 0, 0, 0, 0, 9};
-        for (int quality : qualities) {
-            for (ModemLink each : new ModemLink[] {x, y}) {
-                each.setQuality(quality);
-                Check.send(each, 0, "abcdefghij");
-                each.pass(1);
-            }
-            Check.same("state", Lines.state(x), Lines.state(y));
+        ModemLink x = Check.loaded("line 9; rates 4 1, 5 2, 6 3; train 9 9 9 9; retries 9; hold 50; window 7;"
+            + " delay 9 60; limit 5; patience 50; noise 9 8 7;");
+        Check.yes("load of " + text, Check.load(x, text) > 0);
+        x.dial();
+        return x;
+    }
+
+    private static void defaults() {
+        ModemLink x = withDefaults("line 9; rates 80 1;");
+        for (int step = 0; step < 4; step++) {
+            Lines.sizes(x, "two ticks of step " + step, 4, step, 5, 2);
+            x.pass(2);
         }
-        Lines.sizes(x, "trained again", 1, 1, 4, 2, 5, 2);
+        Lines.sizes(x, "online", 0, 8, 1, 2);
+        Check.send(x, 0, "a".repeat(48));
+        Check.same("not in the same tick", x.pass(1), 0);
+        Lines.ends(x, "a window of 4", 0, 0, 16, 1, 4);
+        Check.same("a delay of 1", x.pass(1), 32);
+        x.setQuality(0);
+        x.pass(5);
+        Lines.sizes(x, "a hold of 5", 1, 3, 7, 5);
+        x.pass(1);
+        Lines.sizes(x, "not of 6", 1, 0);
+        x = withDefaults("line 0; rates 80 1;");
+        x.pass(2);
+        Lines.sizes(x, "two retries", 1, 1, 6, 2);
+        x.pass(1);
+        Lines.sizes(x, "not three", 1, 0);
+    }
+
+    private static void defaultsOfFailures() {
+        ModemLink x = withDefaults("line 9; rates 78 1, 79 2, 80 3;");
+        x.pass(8);
+        x.setQuality(2);
+        for (int k = 0; k < 4; k++) {
+            Check.send(x, 1, "a");
+            x.pass(3);
+        }
+        Lines.totals(x, "one noise of 0: 0 and rate 2 is not more than 2", 4, 0);
+        Lines.sizes(x, "four acknowledgements", 0, 20, 3, 2, 9, 4);
+        x.setQuality(1);
+        Check.send(x, 0, "a");
+        x.pass(3);
+        Lines.totals(x, "0 and rate 2 is more than 1", 5, 1);
+        Lines.sizes(x, "before the timeout", 8, 0);
+        x.pass(1);
+        Lines.sizes(x, "a timeout of 3", 3, 2, 8, 1);
+        x.pass(2);
+        Lines.sizes(x, "before the timeout", 3, 2, 8, 1);
+        x.pass(1);
+        Lines.sizes(x, "a limit of 2", 3, 1, 8, 0);
+        x.pass(2);
+        Lines.sizes(x, "acknowledged", 3, 1, 9, 1);
+        x.setQuality(9);
+        for (int count = 2; count <= 7; count++) {
+            Check.send(x, 0, "a");
+            x.pass(3);
+            Lines.sizes(x, "acknowledged", 3, 1, 9, count);
+        }
+        Check.send(x, 0, "a");
+        x.pass(3);
+        Lines.sizes(x, "a patience of 8", 3, 2, 9, 0);
+    }
+
+    private static void lastNoiseCounts() {
+        Check.about("of several clauses of a kind the last one counts");
+        ModemLink x = Lines.online("line 5; rates 80 1; delay 9 60; noise 0 0 0; noise 6;");
+        for (int k = 1; k <= 4; k++) {
+            Check.send(x, k % 2, "a");
+            x.pass(1);
+            Lines.totals(x, "one noise, not three", k, k);
+        }
     }
 
     private static void queryEndsTooEarly() {

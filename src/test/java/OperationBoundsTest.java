@@ -15,6 +15,7 @@ final class OperationBoundsTest {
         tenCanBeUndone();
         mostRecentFirst();
         undoOfEach();
+        bytesAndEventsComeBack();
         whatUndoLeaves();
         Check.finish();
     }
@@ -287,6 +288,65 @@ final class OperationBoundsTest {
         undone(x, "dial", y -> y.dial());
         undone(x, "restart", y -> y.pass(1));
         undone(x, "hung up in training", y -> y.pass(2));
+    }
+
+    /** Nine operations that write other bytes and events to every place that holds some. */
+    private static void detour(ModemLink x, int tick) {
+        x.setQuality(9);
+        Check.send(x, 0, Lines.different(100 + tick, 100));
+        Check.send(x, 1, Lines.different(150 + tick, 100));
+        x.pass(60);
+        x.hangUp();
+        x.dial();
+        Check.send(x, tick % 2, Lines.different(200 + tick, 150));
+        x.pass(90);
+        x.setQuality(0);
+    }
+
+    /** Two lines do the same, one of them with a detour before each tick, from which it comes back. */
+    private static void backFromDetours(boolean bySnapshot, int callsBefore) {
+        ModemLink x = Check.loaded("line 5; rates 20 1, 30 2; train 1 1 1 1; noise 6 0 0 0 6 0 0 0; delay 3 7; window 7; limit 3;");
+        ModemLink y = Check.loaded("line 5; rates 20 1, 30 2; train 1 1 1 1; noise 6 0 0 0 6 0 0 0; delay 3 7; window 7; limit 3;");
+        for (ModemLink each : new ModemLink[] {x, y}) {
+            for (int k = 0; k < callsBefore; k++) {
+                each.dial();
+                each.pass(4);
+                each.hangUp();
+            }
+            each.dial();
+            each.pass(4);
+            Check.send(each, 0, Lines.different(1, 40));
+            Check.send(each, 1, Lines.different(60, 30));
+        }
+        for (int tick = 0; tick < 40; tick++) {
+            if (bySnapshot) {
+                x.saveSnapshot();
+                detour(x, tick);
+                x.restoreSnapshot();
+            } else {
+                detour(x, tick);
+                for (int k = 0; k < 9; k++) {
+                    x.undo();
+                }
+            }
+            Check.same("back in tick " + tick, Lines.state(x), Lines.state(y));
+            x.pass(1);
+            y.pass(1);
+            Check.same("behind tick " + tick, Lines.state(x), Lines.state(y));
+        }
+        Check.same("received by 1", Check.received(x, 1), Lines.different(1, 40));
+        Check.same("received by 0", Check.received(x, 0), Lines.different(60, 30));
+    }
+
+    private static void bytesAndEventsComeBack() {
+        Check.about("Undoing restores everything that the operation changed");
+        backFromDetours(false, 0);
+        backFromDetours(false, 28);
+        backFromDetours(false, 45);
+        Check.about("Saves a snapshot of everything that undoing restores");
+        backFromDetours(true, 0);
+        backFromDetours(true, 28);
+        backFromDetours(true, 45);
     }
 
     private static void whatUndoLeaves() {

@@ -40,6 +40,11 @@ final class PromiseBoundsTest {
         ModemLink x = new ModemLink();
         ModemLink y = Check.loaded("line 9; rates 8 1;");
         Check.same("everything", Lines.everything(x), Lines.everything(y));
+        Lines.sizes(x, "new", 0, 0, 1, 0, 2, 9, 3, -1, 4, -1, 5, -1, 6, -1, 7, -1, 8, 0, 9, 0, 10, 0, 11, 0);
+        Lines.totals(x, "new", 0, 0, 0, 0, 0, 0, 0, 0, 0, 0, 0);
+        for (int end = 0; end <= 1; end++) {
+            Lines.ends(x, "new", end, 0, 0, 1, 0, 2, 0, 3, 0, 4, 0, 5, 0, 6, 0, 7, 0, 8, 0, 9, 0);
+        }
         Check.same("speed", x.rate(0, 0), 8);
         Check.same("need", x.rate(0, 1), 1);
         Check.noSuchElement("a second rate", () -> x.rate(1, 0));
@@ -103,7 +108,7 @@ final class PromiseBoundsTest {
 
     private static void loadReplacesEverything() {
         Check.about("Promise 3: which replaces everything (the line is idle, the time is 0, queues are empty and nothing is received); the undo history and the snapshot are discarded");
-        String text = "line 5; rates 20 1, 30 2; train 1 1 1 1; noise 6 0 0;";
+        String text = "line 5; rates 20 1, 30 2; train 1 1 1 1; noise 6 0 0; delay 3 7;";
         String fresh = Lines.everything(Check.loaded(text));
         for (int ticks = 1; ticks <= 12; ticks++) {
             ModemLink x = Check.loaded(text);
@@ -111,15 +116,45 @@ final class PromiseBoundsTest {
             Check.send(x, 0, "abcdefghijklmnop");
             Check.send(x, 1, "abcdefghijklmnop");
             x.pass(ticks);
+            x.escape(ticks % 2);
             x.saveSnapshot();
-            x.setQuality(ticks % 2 == 0 ? 0 : 9);
+            x.setQuality(ticks % 3 == 0 ? 0 : 9);
             x.pass(1);
             Check.same("load", Check.load(x, text), 2);
             Check.same("everything", Lines.everything(x), fresh);
             Check.same("undo", x.undo(), -1);
             Check.same("restoreSnapshot", x.restoreSnapshot() ? 1 : 0, 0);
             Check.same("everything", Lines.everything(x), fresh);
+            likeAFreshOne(x, Check.loaded(text));
         }
+        ModemLink x = Check.loaded(text);
+        for (int k = 0; k < 35; k++) {
+            x.dial();
+            x.pass(4);
+            x.hangUp();
+        }
+        Lines.sizes(x, "more events than are kept", 10, 60);
+        Check.load(x, text);
+        Check.same("everything", Lines.everything(x), fresh);
+        likeAFreshOne(x, Check.loaded(text));
+    }
+
+    private static void likeAFreshOne(ModemLink x, ModemLink y) {
+        for (ModemLink each : new ModemLink[] {x, y}) {
+            each.dial();
+            Check.send(each, 0, "uvwxyzuvwxyz");
+        }
+        for (int tick = 0; tick < 40; tick++) {
+            for (ModemLink each : new ModemLink[] {x, y}) {
+                each.pass(1);
+                each.saveSnapshot();
+                each.undo();
+                each.hangUp();
+                each.restoreSnapshot();
+            }
+            Check.same("like a fresh one", Lines.everything(x), Lines.everything(y));
+        }
+        Check.same("received", Check.received(x, 1), "uvwxyzuvwxyz");
     }
 
     private static void loadWithAnError() {
@@ -317,6 +352,10 @@ final class PromiseBoundsTest {
         Check.send(x, 0, "aaaaaaaabbbbbbbbccc");
         x.pass(1);
         Check.same("tick 4", Lines.frames(x, 0), "0:8:4");
+        int[] due = {0, 8, 4, 0};
+        for (int what = 0; what < 4; what++) {
+            Check.same("frame 0 0 " + what, x.frame(0, 0, what), due[what]);
+        }
         Check.noSuchElement("frame 0 1", () -> x.frame(0, 1, 0));
         x.pass(1);
         Check.same("tick 5", Lines.frames(x, 0), "0:8:4 1:8:5 2:3:5");
@@ -326,6 +365,10 @@ final class PromiseBoundsTest {
         x.escape(0);
         x.pass(2);
         Check.same("tick 8", Lines.frames(x, 0), "1:8:5* 2:3:5*");
+        int[] again = {2, 3, 5, 1};
+        for (int what = 0; what < 4; what++) {
+            Check.same("frame 0 1 " + what, x.frame(0, 1, what), again[what]);
+        }
         x.resume(0);
         x.setQuality(0);
         x.pass(1);

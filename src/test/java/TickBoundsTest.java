@@ -29,6 +29,7 @@ final class TickBoundsTest {
         noHigherRate();
         arrivalsBeforeTimers();
         timersBeforeRises();
+        risesAndFallsBeforeSending();
         creditIsBounded();
         creditOfEscaped();
         creditIsEnough();
@@ -43,6 +44,8 @@ final class TickBoundsTest {
         comingOnline();
         lossOfWhatIsUnderWay();
         hungUpByATick();
+        hungUpWithFramesUnderWay();
+        bothExpectNought();
         Check.finish();
     }
 
@@ -521,6 +524,31 @@ final class TickBoundsTest {
         Lines.sizes(x, "tick 9", 3, 1, 8, 0, 9, 0);
     }
 
+    private static void risesAndFallsBeforeSending() {
+        Check.about("When a tick passes, this happens in this order: Timers, Rises, Sending (its credit grows by the speed of the rate)");
+        ModemLink x = Lines.online("line 1; rates 30 1, 50 6; patience 1; noise 0 6 0;");
+        x.setQuality(6);
+        Check.send(x, 0, "a");
+        x.pass(2);
+        Lines.ends(x, "tick 5", 0, 6, 52);
+        Lines.ends(x, "tick 5", 1, 6, 58);
+        Check.send(x, 0, "a");
+        x.pass(1);
+        Lines.sizes(x, "risen in tick 6", 3, 1);
+        Lines.ends(x, "by the speed of the new rate", 0, 6, 78 - 5);
+        Lines.ends(x, "to 28 more than the new speed", 1, 6, 78);
+        Lines.totals(x, "with the number of the new rate: 6 and 1 is more than 6", 2, 1);
+        x = Lines.online("line 6; rates 30 1, 50 6; limit 1; noise 6 6;");
+        Check.send(x, 0, "a");
+        x.pass(3);
+        Lines.ends(x, "tick 6", 0, 6, 78);
+        x.pass(1);
+        Lines.sizes(x, "fallen in tick 7", 3, 0);
+        Lines.ends(x, "to 28 more than the lower speed", 0, 6, 58 - 8);
+        Lines.ends(x, "to 28 more than the lower speed", 1, 6, 58);
+        Lines.totals(x, "with the number of the lower rate: 6 and 0 is not more than 6", 2, 1);
+    }
+
     private static void creditIsBounded() {
         Check.about("its credit grows by the speed of the rate, to at most 28 more than the speed");
         int[][] due = {{4, 4, 8, 12, 16, 20, 24, 28, 32, 32}, {10, 10, 20, 30, 38, 38}, {27, 27, 54, 55, 55},
@@ -790,6 +818,67 @@ final class TickBoundsTest {
         Check.same("the acknowledgement is lost, the frame is forgotten", Lines.frames(x, 0), "");
         x.pass(20);
         Lines.sizes(x, "no acknowledgement", 9, 0);
+    }
+
+    private static void nothingArrives(ModemLink x, String when) {
+        int thrownAway = x.total(2);
+        int received = x.total(10);
+        x.setQuality(9);
+        x.dial();
+        x.pass(30);
+        Lines.sizes(x, when, 1, 2, 9, 0);
+        Check.same(when + ": nothing is thrown away", x.total(2), thrownAway);
+        Check.same(when + ": nothing is received", x.total(10), received);
+        for (int end = 0; end <= 1; end++) {
+            Lines.ends(x, when, end, 0, 0, 1, 0, 2, 0, 3, 0, 4, 0);
+        }
+    }
+
+    private static void hungUpWithFramesUnderWay() {
+        Check.about("When the line is hung up, it is idle: queues, frames and what is under way are lost");
+        ModemLink x = Lines.online("line 9; rates 80 1; delay 2 5;");
+        Check.send(x, 0, "a");
+        Check.send(x, 1, "b");
+        x.pass(1);
+        x.hangUp();
+        nothingArrives(x, "frames, by the operation");
+        Check.send(x, 0, "a");
+        Check.send(x, 1, "b");
+        x.pass(3);
+        Check.same("received", x.total(10), 2);
+        x.hangUp();
+        nothingArrives(x, "acknowledgements, by the operation");
+        x = Lines.online("line 5; rates 80 1; delay 2 5; noise 9; limit 1; window 7;");
+        Check.send(x, 0, "a");
+        x.pass(4);
+        Check.send(x, 0, "a");
+        x.pass(1);
+        Check.same("under way", Lines.frames(x, 0), "0:1:4 1:1:8");
+        x.pass(1);
+        Lines.sizes(x, "a failure", 1, 0);
+        nothingArrives(x, "frames, by a failure");
+    }
+
+    private static void bothExpectNought() {
+        Check.about("When it is dialled, both ends expect number 0");
+        ModemLink x = Lines.online("line 9; rates 80 1;");
+        Check.send(x, 0, "aaaaaaaaa");
+        Check.send(x, 1, "aaaaaaaaaaaaaaaaa");
+        x.pass(3);
+        Lines.ends(x, "online", 0, 3, 2, 4, 3);
+        Lines.ends(x, "online", 1, 3, 3, 4, 2);
+        x.hangUp();
+        Lines.ends(x, "hung up", 0, 3, 2, 4, 3);
+        Lines.ends(x, "hung up", 1, 3, 3, 4, 2);
+        x.dial();
+        Lines.ends(x, "dialled", 0, 3, 0, 4, 0);
+        Lines.ends(x, "dialled", 1, 3, 0, 4, 0);
+        x.pass(4);
+        Check.send(x, 0, "b");
+        Check.send(x, 1, "c");
+        x.pass(2);
+        Check.same("received by 1", x.end(1, 5), 10);
+        Check.same("received by 0", x.end(0, 5), 18);
     }
 
     private static void hungUpByATick() {
