@@ -135,6 +135,15 @@ final class CallBoundsTest {
         Check.same("received by 1", Check.received(x, 1), "aaaaaaaabbbbbbbbcc");
         Check.same("received by 0", Check.received(x, 0), "xyz");
         Check.same("a frame was damaged", x.total(1), 1);
+        ModemLink y = Lines.online("line 5; rates 60 1; window 3; delay 2 5; noise 0 0 0 0 6 0 0 0 0;");
+        Check.send(y, 0, "a".repeat(150));
+        Check.send(y, 1, "b".repeat(100));
+        for (int tick = 4; tick < 60; tick++) {
+            Check.same("before tick " + tick, y.hangUp(), 250 - y.total(10));
+            y.undo();
+            y.pass(1);
+        }
+        Check.same("all are received in the end", y.total(10), 250);
     }
 
     private static void hangUpInEachPhase() {
