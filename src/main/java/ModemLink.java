@@ -594,8 +594,8 @@ public final class ModemLink {
             return Math.floorMod(first + place, WINDOW_MOST);
         }
 
-        void make(int[] source, int size) {
-            int slot = slotOf(count);
+        /** slot: that of the place behind the last frame. */
+        void make(int slot, int[] source, int size) {
             sizes[slot] = size;
             System.arraycopy(source, 0, bytes, slot * FRAME_BYTES, size);
             count++;
@@ -604,7 +604,9 @@ public final class ModemLink {
         void forgetFirst() {
             first++;
             count--;
-            sent = Math.max(sent - 1, 0);
+            if (sent > 0) {
+                sent--;
+            }
         }
 
         void forgetBelow(int number) {
@@ -683,9 +685,9 @@ public final class ModemLink {
             queueCount += length;
         }
 
-        void makeFrame() {
+        void makeFrame(int slot) {
             int size = nextFrameSize();
-            frames.make(queue, size);
+            frames.make(slot, queue, size);
             queueCount -= size;
             for (int place = 0; place < queueCount; place++) {
                 queue[place] = queue[place + size];
@@ -789,7 +791,8 @@ public final class ModemLink {
             } else {
                 oldest = oldest + 1 < EVENTS_MOST ? oldest + 1 : 0;
             }
-            int row = Math.floorMod(oldest + count - 1, EVENTS_MOST) * PROPERTIES;
+            int place = oldest + count - 1;
+            int row = (place < EVENTS_MOST ? place : place - EVENTS_MOST) * PROPERTIES;
             rows[row + TICK] = tick;
             rows[row + KIND] = kind;
             rows[row + END] = end;
@@ -1117,7 +1120,7 @@ public final class ModemLink {
                 return false;
             }
             if (isNew) {
-                sender.makeFrame();
+                sender.makeFrame(slot);
             }
             sender.credit -= cost;
             totals[COSTS] += cost;
@@ -1443,7 +1446,7 @@ public final class ModemLink {
             return mask == 0 ? NONE : Long.numberOfTrailingZeros(mask);
         }
 
-        long readTest(int open) {
+        private long readTest(int open) {
             long mask = readConjunction(open);
             for (int k = 0; k < QUERY_MOST && tokens.isWord("or"); k++) {
                 tokens.next();
@@ -1452,7 +1455,7 @@ public final class ModemLink {
             return mask;
         }
 
-        long readConjunction(int open) {
+        private long readConjunction(int open) {
             long mask = readFactor(open);
             for (int k = 0; k < QUERY_MOST && tokens.isWord("and"); k++) {
                 tokens.next();
@@ -1462,7 +1465,7 @@ public final class ModemLink {
         }
 
         /** open: how many 'not' and '(' are open around the factor. */
-        long readFactor(int open) {
+        private long readFactor(int open) {
             boolean negated = tokens.isWord("not");
             if (!negated && !tokens.isSign('(')) {
                 return readComparison();
